@@ -41,6 +41,7 @@ public final class PromiseTest {
         pool();
         look();
         financed();
+        fullHouse();
         Check.end();
     }
 
@@ -494,7 +495,10 @@ public final class PromiseTest {
         is("1 gave it", x.purse(1), 0);
         is("2 gave it", x.purse(2), 0);
         is("none twice", x.mend(), 0);
-        assigned(x, of(3, 1, 1000, 0), 4, true);
+        x.lump(0, 1, 500);
+        is("none twice, also when the purse has as much again", x.mend(), 0);
+        x.invoice(3, 1, 1000, 0);
+        x.assign(1, 4, true);
         x.pay(1, 5, 40);
         assigned(x, of(2, 4, 1000, 0), 5, true);
         x.draw(5, 2, 20);
@@ -819,6 +823,9 @@ public final class PromiseTest {
         is("from the one who is told", x.recourse(0), 100);
         is("to the silent one", x.invoiceIs(0, 1), 4);
         is("the buyer is free by the seller", x.invoiceIs(0, 2), 0);
+        is("5 has it back", x.purse(5), 0);
+        is("4 has none of it", x.purse(4), 0);
+        is("nothing is drawn from 5", x.drawn(5, 0), 0);
     }
 
     // Promise 23
@@ -1010,5 +1017,27 @@ public final class PromiseTest {
         is("an old one is in it till a look", z.financed(), 270);
         is("old", z.look(), 1);
         is("that is bad, too", z.financed(), 0);
+    }
+
+    /** With 40 invoices, each call that goes through all of them. */
+    private static void fullHouse() {
+        FactorHouse x = wide();
+        for (int i = 0; i < 40; i++) {
+            assigned(x, of(i == 39 ? 1 : 0, 0, 1, i), i == 39 ? 6 : 4, false);
+            x.pool(i);
+        }
+        is("40 are financed", x.financed(), 36);
+        is("40 are looked at", x.look(), 0);
+        is("39 in a base: 31.2", x.base(4, 0), 31);
+        is("1 in a base: 0.8", x.base(6, 1), 0);
+        is("39 by the days due", x.lump(0, 0, 39), 39);
+        is("the last one is left", x.invoiceIs(39, 0), 1);
+        is("of the last one just so much is owed", x.lump(0, 1, 1), 1);
+        is("nothing is left", x.invoiceIs(39, 0), 0);
+        is("none was wrong", x.mend(), 0);
+        is("40 are taken out", x.look(), 40);
+        is("39 silent ones of 0", x.fail(0), 39);
+        is("the last one of 1", x.fail(1), 1);
+        is("the last one is his", x.invoiceIs(39, 1), 1);
     }
 }

@@ -1,10 +1,11 @@
 /**
  * Long runs of calls, the same each time, whose answers are held against the model's. What cannot
- * be seen from an answer is read after every call from all that the house tells.
+ * be seen from an answer is read now and then from all that the house tells.
  */
 public final class RandomRunsTest {
     private static final int RUNS = 400;
     private static final int CALLS = 512;
+    private static final int STATE_EACH = 8;
     private static final int CALLS_BEYOND = 6000;
 
     /** How often each kind is called, by the order of the kinds. */
@@ -59,7 +60,9 @@ public final class RandomRunsTest {
             String call = "run " + run + ", call " + i + ", kind " + kind + " (" + a[0] + ", " + a[1]
                     + ", " + a[2] + ", " + a[3] + ")";
             Check.due(call, answer(house, kind, a), answer(model, kind, a));
-            Check.due("after " + call, state(house), state(model));
+            if (i % STATE_EACH == 0) {
+                Check.due("after " + call, state(house), state(model));
+            }
         }
     }
 
