@@ -466,6 +466,12 @@ public final class PromiseTest {
         is("right for one and wrong for the other", x.lump(3, 1, 40), 2);
         is("wrong for 6", x.invoiceIs(6, 0), 20);
         is("right for 7", x.invoiceIs(7, 0), 0);
+        FactorHouse y = new FactorHouse();
+        y.invoice(0, 0, 5, 9);
+        y.invoice(0, 0, 7, 0);
+        is("just so much is owed by the first one", y.lump(0, 0, 5), 1);
+        is("the first one is paid", y.invoiceIs(0, 0), 0);
+        is("the one due before it is not", y.invoiceIs(1, 0), 7);
     }
 
     private static void lumpTooOftenWrong() {
@@ -683,6 +689,9 @@ public final class PromiseTest {
         x.assign(2, 5, true);
         is("another owner", x.base(4, 0), 0);
         is("counts for him", x.base(5, 0), 40);
+        assigned(x, of(2, 3, 199, 300), 6, true);
+        x.factor(6, 100, 1, 0);
+        is("a share of 1.99 is 1", x.base(6, 2), 1);
         FactorHouse most = wide();
         for (int i = 0; i < 40; i++) {
             assigned(most, of(0, 0, 1000000, 0), 6, true);
@@ -1014,9 +1023,18 @@ public final class PromiseTest {
         z.pool(0);
         z.pool(1);
         z.pass(71);
-        is("an old one is in it till a look", z.financed(), 270);
+        z.credit(0, 99);
+        is("an old one is in it till a look", z.financed(), 180);
         is("old", z.look(), 1);
-        is("that is bad, too", z.financed(), 0);
+        is("that is bad by what was owed, though 1 is left", z.financed(), 0);
+        FactorHouse v = wide();
+        assigned(v, of(0, 0, 10, 10), 4, true);
+        assigned(v, of(0, 1, 89, 10), 4, true);
+        v.pool(0);
+        v.pool(1);
+        v.dispute(0, true);
+        v.look();
+        is("10 bad of 99 are too much", v.financed(), 0);
     }
 
     /** With 40 invoices, each call that goes through all of them. */
@@ -1039,5 +1057,12 @@ public final class PromiseTest {
         is("39 silent ones of 0", x.fail(0), 39);
         is("the last one of 1", x.fail(1), 1);
         is("the last one is his", x.invoiceIs(39, 1), 1);
+        FactorHouse y = new FactorHouse();
+        for (int i = 0; i < 40; i++) {
+            y.invoice(0, 0, 2, 40 - i);
+        }
+        is("all 40 by one lump sum", y.lump(0, 0, 100), 40);
+        is("the first one, due last", y.invoiceIs(0, 0), 0);
+        is("20 are not matched", y.purse(0), 100);
     }
 }
