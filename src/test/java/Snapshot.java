@@ -6,8 +6,9 @@ final class Snapshot {
     static String of(FactorHouse house) {
         StringBuilder text = new StringBuilder();
         for (int invoice = 0; invoice < 40; invoice++) {
+            int anew;
             try {
-                house.owedAnew(invoice);
+                anew = house.owedAnew(invoice);
             } catch (IndexOutOfBoundsException e) {
                 break;
             }
@@ -15,7 +16,7 @@ final class Snapshot {
             for (int what = 0; what <= 5; what++) {
                 text.append(' ').append(house.invoiceIs(invoice, what));
             }
-            text.append(' ').append(house.owedAnew(invoice));
+            text.append(' ').append(anew);
         }
         text.append("\npurses");
         for (int party = 0; party < 7; party++) {
